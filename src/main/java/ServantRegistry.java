@@ -765,9 +765,6 @@ public final class ServantRegistry {
 
         /** The placing that shows how long the servant stayed elsewhere; null if there is none. */
         Placing provenBy(Testimony told, int today) {
-            if (falsehood(told, today) != NONE) {
-                return null;
-            }
             Placing first = null;
             for (int i = 0; i < placings.size(); i++) {
                 Placing p = placings.get(i);
@@ -778,7 +775,7 @@ public final class ServantRegistry {
                     first = p;
                 }
             }
-            return first;
+            return first != null && falsehood(told, today) == NONE ? first : null;
         }
 
         int knownOf(int house, int by) {
