@@ -13,9 +13,9 @@ import java.util.regex.Pattern;
 /** The rules of LANGUAGE.md that can be looked up in the source and in the compiled class. */
 public final class LanguageTest {
     private static final String[] FORBIDDEN = {"\\bthrow\\b", "\\btry\\b", "\\bcatch\\b", "\\bfinally\\b",
-        "\\bsynchronized\\b", "\\bassert\\b", "->", "::", "\\binstanceof\\b", "\\bpackage\\b", "\\bdouble\\b",
-        "\\bfloat\\b", "\\bvar\\b", "Exact\\b", "\\bSystem\\.(?!arraycopy)", "\\bfor \\([^;]*:[^:]",
-        "\\.(values|toString|hashCode|equals|getClass)\\(", "\\bprotected\\b", "\\bstatic \\{"};
+        "\\bsynchronized\\b", "\\bassert\\b", "->", "::", "\\bpackage\\b", "\\bdouble\\b",
+        "\\bfloat\\b", "\\bvar\\b", "Exact\\b", "\\bSystem\\.(?!arraycopy)", "\\.(hashCode|getClass)\\(",
+        "\\bprotected\\b", "\\bstatic \\{"};
 
     public static void main(String[] args) throws IOException {
         String source = Files.readString(Path.of("src/main/java/ServantRegistry.java"));
