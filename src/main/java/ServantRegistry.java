@@ -898,7 +898,7 @@ public final class ServantRegistry {
 
         /** A way is its steps times this and its days: the least way has the fewest steps first. */
         static final int ONE_STEP = 1_000_000;
-        static final int NO_WAY = Integer.MAX_VALUE;
+        static final int NO_WAY = 1000 * ONE_STEP;
 
         final int number;
         final int day;

@@ -15,7 +15,8 @@ public final class LanguageTest {
     private static final String[] FORBIDDEN = {"\\bthrow\\b", "\\btry\\b", "\\bcatch\\b", "\\bfinally\\b",
         "\\bsynchronized\\b", "\\bassert\\b", "->", "::", "\\bpackage\\b", "\\bdouble\\b",
         "\\bfloat\\b", "\\bvar\\b", "Exact\\b", "\\bSystem\\.(?!arraycopy)", "\\.(hashCode|getClass)\\(",
-        "\\bprotected\\b", "\\bstatic \\{"};
+        "\\bprotected\\b", "\\bstatic \\{", "\\b(Integer|Long|Math)\\.[A-Z]",
+        "\\bArrays\\.(?!(copyOf|copyOfRange|fill)\\()"};
 
     public static void main(String[] args) throws IOException {
         String source = Files.readString(Path.of("src/main/java/ServantRegistry.java"));
